@@ -56,7 +56,7 @@ public final class PassTheSalt {
             text[k] = FIRST_TEXT.charAt(k);
             length = k + 1;
         }
-        layTold();
+        lay();
         length = 0;
     }
 
@@ -87,7 +87,20 @@ public final class PassTheSalt {
     }
 
     public int lay() {
-        return layTold();
+        if (reader.read(length) != NONE || told.guests < 2) {
+            return NO;
+        }
+        table.become(told);
+        layings.gather(table.laid, table.guests);
+        moves.forget();
+        search.forget();
+        whatIf.forget();
+        now.lie = table.laid;
+        now.had = pairsOf(table.laid);
+        now.minute = 0;
+        undoable.size = 0;
+        kept.size = 0;
+        return table.guests;
     }
 
     public int guest(int i, int what) {
@@ -308,23 +321,6 @@ public final class PassTheSalt {
 
     // ---- helpers of the calls
 
-    private int layTold() {
-        if (reader.read(length) != NONE || told.guests < 2) {
-            return NO;
-        }
-        table.become(told);
-        layings.gather(table.laid, table.guests);
-        moves.forget();
-        search.forget();
-        whatIf.forget();
-        now.lie = table.laid;
-        now.had = pairsOf(table.laid);
-        now.minute = 0;
-        undoable.size = 0;
-        kept.size = 0;
-        return table.guests;
-    }
-
     private void lookAhead() {
         search.startFrom(layings.numberOf(now.lie));
     }
@@ -371,7 +367,8 @@ public final class PassTheSalt {
     }
 
     private static int changed(int lie, int one, int other) {
-        return placed(placed(lie, one, before(lie, other)), other, before(lie, one));
+        int apart = (lie >> SEAT_BITS * one ^ lie >> SEAT_BITS * other) & NOTHING;
+        return lie ^ apart << SEAT_BITS * one ^ apart << SEAT_BITS * other;
     }
 
     private static int seatOf(int lie, int dish) {
@@ -465,7 +462,7 @@ public final class PassTheSalt {
         }
 
         int kindOf(int g) {
-            return at(kinds, g);
+            return g >= 0 && g < MOST_GUESTS ? kinds[g] : 0;
         }
 
         int wantsOf(int g) {
@@ -478,7 +475,10 @@ public final class PassTheSalt {
 
         /** What it is worth not cold; nothing is worth 0. */
         int worthOf(int g, int d) {
-            return d < 0 || d >= MOST_DISHES ? 0 : at(worths, g * MOST_DISHES + d);
+            if (g < 0 || g >= MOST_GUESTS || d < 0 || d >= MOST_DISHES) {
+                return 0;
+            }
+            return worths[g * MOST_DISHES + d];
         }
 
         int worthAt(int g, int d, int minute) {
@@ -627,16 +627,17 @@ public final class PassTheSalt {
                     return false;
                 }
             }
-            return take(letter, at(numbers, 0));
+            if (letter == 'g') {
+                return takeGuest(at(numbers, 0), at(numbers, 1), at(numbers, 2));
+            }
+            return takeNumber(letter, at(numbers, 0));
         }
 
-        private boolean take(int letter, int number) {
+        private boolean takeNumber(int letter, int number) {
             switch (letter) {
                 case 'd':
                     table.dishes = number;
                     return number >= 1 && number <= MOST_DISHES && table.guests == 0;
-                case 'g':
-                    return takeGuest(number, at(numbers, 1), at(numbers, 2));
                 case 'r':
                     table.ring = number;
                     return number <= 1;
@@ -782,7 +783,14 @@ public final class PassTheSalt {
                 return UNKNOWN;
             }
             if (rows[index] == UNKNOWN) {
-                rows[index] = workedOut(laying, asker);
+                int lie = layings.lieOf(laying);
+                long row = 0;
+                for (int asked = MOST_GUESTS - 1; asked >= 0; asked--) {
+                    boolean can = table.canBeAsked(lie, asker, asked);
+                    int to = can ? layings.numberOf(table.lieAfter(lie, asker, asked)) : NOWHERE;
+                    row = row << NUMBER_BITS | to;
+                }
+                rows[index] = row;
             }
             return rows[index];
         }
@@ -790,19 +798,6 @@ public final class PassTheSalt {
         /** NOWHERE, if he can not be asked. */
         static int target(long row, int asked) {
             return (int) (row >> NUMBER_BITS * asked) & NOWHERE;
-        }
-
-        private long workedOut(int laying, int asker) {
-            int lie = layings.lieOf(laying);
-            long row = 0;
-            for (int asked = MOST_GUESTS - 1; asked >= 0; asked--) {
-                int to = NOWHERE;
-                if (table.canBeAsked(lie, asker, asked)) {
-                    to = layings.numberOf(table.lieAfter(lie, asker, asked));
-                }
-                row = row << NUMBER_BITS | to;
-            }
-            return row;
         }
 
         boolean changeAnything(int laying) {
@@ -851,27 +846,35 @@ public final class PassTheSalt {
             reach(laying, 0, 0);
         }
 
-        /** The k-th laying that is reached, or NOWHERE. All ahead of it are opened, so its opening is final. */
-        private int reachedAs(int k) {
-            for (; opened < k && opened < reached; opened++) {
-                open(at(order, opened));
-            }
-            return k < reached ? at(order, k) : NOWHERE;
-        }
-
-        private void open(int laying) {
-            int depth = at(steps, laying) + 1;
-            for (int asker = 0; asker < moves.table.guests; asker++) {
-                long row = moves.rowOf(laying, asker);
-                for (int asked = 0; asked < moves.table.guests; asked++) {
-                    int to = Moves.target(row, asked);
-                    if (to != NOWHERE) {
-                        reach(to, depth, depth == 1 ? 10 * asker + asked : at(openings, laying));
+        /**
+         * The k-th laying that is reached in fewer steps than the limit, or NOWHERE. All of fewer steps than
+         * it takes are opened, so its opening is final.
+         */
+        private int reachedAs(int k, int limit) {
+            int guests = moves.table.guests;
+            for (; opened < MOST_LAYINGS && opened < reached && mustOpenFor(k, limit); opened++) {
+                int laying = at(order, opened);
+                int depth = stepsAs(opened) + 1;
+                for (int asker = 0; asker < guests; asker++) {
+                    long row = moves.rowOf(laying, asker);
+                    for (int asked = 0; asked < guests; asked++) {
+                        int opening = depth == 1 ? 10 * asker + asked : at(openings, laying);
+                        reach(Moves.target(row, asked), depth, opening);
                     }
                 }
             }
+            return k < reached && stepsAs(k) < limit ? at(order, k) : NOWHERE;
         }
 
+        private boolean mustOpenFor(int k, int limit) {
+            return k >= reached ? stepsAs(opened) < limit - 1 : stepsAs(opened) < stepsAs(k);
+        }
+
+        private int stepsAs(int k) {
+            return at(steps, at(order, k));
+        }
+
+        /** NOWHERE is left alone. */
         private void reach(int laying, int depth, int opening) {
             if (laying < 0 || laying >= MOST_LAYINGS) {
                 return;
@@ -888,7 +891,7 @@ public final class PassTheSalt {
 
         int stepsTo(int seat, int dish) {
             int k = firstWith(seat, dish);
-            return k < 0 ? NONE : at(steps, at(order, k));
+            return k < 0 ? NONE : stepsAs(k);
         }
 
         int openingTo(int seat, int dish) {
@@ -896,9 +899,9 @@ public final class PassTheSalt {
             if (k <= 0) {
                 return NONE;
             }
-            int depth = at(steps, at(order, k));
+            int depth = stepsAs(k);
             int least = FAR;
-            for (; k < reached && at(steps, at(order, k)) == depth; k++) {
+            for (; k < reached && stepsAs(k) == depth; k++) {
                 int laying = at(order, k);
                 if (before(moves.layings.lieOf(laying), seat) == dish) {
                     least = Math.min(least, at(openings, laying));
@@ -912,7 +915,7 @@ public final class PassTheSalt {
                 return -1;
             }
             for (int k = 0; k < MOST_LAYINGS; k++) {
-                int laying = reachedAs(k);
+                int laying = reachedAs(k, FAR);
                 if (laying == NOWHERE) {
                     return -1;
                 }
@@ -923,11 +926,11 @@ public final class PassTheSalt {
             return -1;
         }
 
-        /** NONE, if it takes as many as the limit, too. */
+        /** NONE, if it does not take fewer than the limit, too. */
         int stepsToRest(int limit) {
             for (int k = 0; k < MOST_LAYINGS; k++) {
-                int laying = reachedAs(k);
-                if (laying == NOWHERE || at(steps, laying) >= limit) {
+                int laying = reachedAs(k, limit);
+                if (laying == NOWHERE) {
                     return NONE;
                 }
                 if (moves.table.isAtRest(moves.layings.lieOf(laying))) {
@@ -941,7 +944,7 @@ public final class PassTheSalt {
         long pairsReached(long sought) {
             long met = 0;
             for (int k = 0; k < MOST_LAYINGS && met != sought; k++) {
-                int laying = reachedAs(k);
+                int laying = reachedAs(k, FAR);
                 if (laying == NOWHERE) {
                     return met;
                 }
@@ -1058,12 +1061,6 @@ public final class PassTheSalt {
             seatsFrom = NOWHERE;
         }
 
-        private void lookAheadOtherwise() {
-            otherMoves.forget();
-            otherSearch.forget();
-            otherSearch.startFrom(realSearch.start);
-        }
-
         void findHolder() {
             if (holderFrom == realSearch.start) {
                 return;
@@ -1073,7 +1070,8 @@ public final class PassTheSalt {
             heldUp = 0;
             long had = realSearch.pairsReached(real.wantedPairs());
             for (int g = 0; g < real.guests; g++) {
-                int many = real.kindOf(g) == HOLD ? 0 : heldUpBy(g, had);
+                makeHold(g);
+                int many = Long.bitCount(had & ~otherSearch.pairsReached(had));
                 if (many > heldUp) {
                     holder = g;
                     heldUp = many;
@@ -1081,23 +1079,31 @@ public final class PassTheSalt {
             }
         }
 
-        private int heldUpBy(int g, long had) {
-            other.become(real);
-            other.setKind(g, HOLD);
-            lookAheadOtherwise();
-            return Long.bitCount(had & ~otherSearch.pairsReached(had));
-        }
-
         int bestSeats() {
-            if (seatsFrom != realSearch.start) {
-                seatsFrom = realSearch.start;
-                seatsBest = anyLayingIsAtRest() ? lookForSeats() : NONE;
+            if (seatsFrom == realSearch.start) {
+                return seatsBest;
+            }
+            seatsFrom = realSearch.start;
+            seatsBest = NONE;
+            int least = realSearch.stepsToRest(FAR);
+            if (least == NONE && canBeAtRest()) {
+                least = FAR;
+            }
+            for (int i = 0; i < real.guests; i++) {
+                for (int j = i + 1; j < real.guests && least > 0; j++) {
+                    changeSeats(i, j);
+                    int otherSteps = otherSearch.stepsToRest(least);
+                    if (otherSteps != NONE) {
+                        least = otherSteps;
+                        seatsBest = 10 * i + j;
+                    }
+                }
             }
             return seatsBest;
         }
 
-        /** Whoever sits where, all can be at rest in one laying or else in none: so the rest is spared. */
-        private boolean anyLayingIsAtRest() {
+        /** Whoever sits where, there is a laying with all at rest, or there is none: then no seats need a look. */
+        private boolean canBeAtRest() {
             Layings layings = realSearch.moves.layings;
             for (int k = 0; k < layings.size; k++) {
                 if (real.isAtRest(layings.lieOf(k))) {
@@ -1107,28 +1113,23 @@ public final class PassTheSalt {
             return false;
         }
 
-        private int lookForSeats() {
-            int steps = realSearch.stepsToRest(FAR);
-            int least = steps == NONE ? FAR : steps;
-            int best = NONE;
-            for (int i = 0; i < real.guests; i++) {
-                for (int j = i + 1; j < real.guests && least > 0; j++) {
-                    int otherSteps = restWithSeatsChanged(i, j, least);
-                    if (otherSteps != NONE) {
-                        least = otherSteps;
-                        best = 10 * i + j;
-                    }
-                }
-            }
-            return best;
+        private void makeHold(int g) {
+            other.become(real);
+            other.setKind(g, HOLD);
+            startOther();
         }
 
-        private int restWithSeatsChanged(int i, int j, int limit) {
+        private void changeSeats(int i, int j) {
             other.become(real);
             other.takeGuest(i, real, j);
             other.takeGuest(j, real, i);
-            lookAheadOtherwise();
-            return otherSearch.stepsToRest(limit);
+            startOther();
+        }
+
+        private void startOther() {
+            otherMoves.forget();
+            otherSearch.forget();
+            otherSearch.startFrom(realSearch.start);
         }
     }
 
