@@ -42,7 +42,7 @@ public final class PassTheSalt {
 
     private final Table table = new Table();
     private final Layings layings = new Layings();
-    private final Moves moves = new Moves(table, layings);
+    private final Moves moves = new Moves(table, layings, MOST_LAYINGS * MOST_GUESTS);
     private final Search search = new Search(moves);
     private final Sums sums = new Sums(moves);
     private final WhatIf whatIf = new WhatIf(table, search);
@@ -759,17 +759,18 @@ public final class PassTheSalt {
         }
     }
 
-    /** To which laying each asking leads from each laying: worked out when first looked at. */
+    /** To which laying each asking leads from each laying; what was worked out is kept as far as there is room. */
     private static final class Moves {
         private static final long UNKNOWN = -1;
 
         final Table table;
         final Layings layings;
-        private final long[] rows = new long[MOST_LAYINGS * MOST_GUESTS];
+        private final long[] rows;
 
-        Moves(Table table, Layings layings) {
+        Moves(Table table, Layings layings, int room) {
             this.table = table;
             this.layings = layings;
+            rows = new long[Math.max(0, room)];
         }
 
         void forget() {
@@ -779,20 +780,21 @@ public final class PassTheSalt {
         /** Ten bits for each who may be asked, so that a table's rows stay few. */
         long rowOf(int laying, int asker) {
             int index = laying * MOST_GUESTS + asker;
-            if (index < 0 || index >= rows.length) {
-                return UNKNOWN;
+            boolean hasRoom = index >= 0 && index < rows.length;
+            if (hasRoom && rows[index] != UNKNOWN) {
+                return rows[index];
             }
-            if (rows[index] == UNKNOWN) {
-                int lie = layings.lieOf(laying);
-                long row = 0;
-                for (int asked = MOST_GUESTS - 1; asked >= 0; asked--) {
-                    boolean can = table.canBeAsked(lie, asker, asked);
-                    int to = can ? layings.numberOf(table.lieAfter(lie, asker, asked)) : NOWHERE;
-                    row = row << NUMBER_BITS | to;
-                }
+            int lie = layings.lieOf(laying);
+            long row = 0;
+            for (int asked = MOST_GUESTS - 1; asked >= 0; asked--) {
+                boolean can = table.canBeAsked(lie, asker, asked);
+                int to = can ? layings.numberOf(table.lieAfter(lie, asker, asked)) : NOWHERE;
+                row = row << NUMBER_BITS | to;
+            }
+            if (hasRoom) {
                 rows[index] = row;
             }
-            return rows[index];
+            return row;
         }
 
         /** NOWHERE, if he can not be asked. */
@@ -1045,15 +1047,14 @@ public final class PassTheSalt {
         private final Table real;
         private final Search realSearch;
         private final Table other;
-        private final Moves otherMoves;
         private final Search otherSearch;
 
         WhatIf(Table real, Search realSearch) {
             this.real = real;
             this.realSearch = realSearch;
             other = new Table();
-            otherMoves = new Moves(other, realSearch.moves.layings);
-            otherSearch = new Search(otherMoves);
+            // Each search looks at a laying once, so that nothing would be gained by keeping its rows.
+            otherSearch = new Search(new Moves(other, realSearch.moves.layings, 0));
         }
 
         void forget() {
@@ -1127,7 +1128,6 @@ public final class PassTheSalt {
         }
 
         private void startOther() {
-            otherMoves.forget();
             otherSearch.forget();
             otherSearch.startFrom(realSearch.start);
         }
