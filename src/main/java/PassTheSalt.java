@@ -848,13 +848,10 @@ public final class PassTheSalt {
             reach(laying, 0, 0);
         }
 
-        /**
-         * The k-th laying that is reached in fewer steps than the limit, or NOWHERE. All of fewer steps than
-         * it takes are opened, so its opening is final.
-         */
+        /** The k-th laying that is reached in fewer steps than the limit, or NOWHERE. */
         private int reachedAs(int k, int limit) {
             int guests = moves.table.guests;
-            for (; opened < MOST_LAYINGS && opened < reached && mustOpenFor(k, limit); opened++) {
+            for (; opened < reached && reached <= k && stepsAs(opened) < limit - 1; opened++) {
                 int laying = at(order, opened);
                 int depth = stepsAs(opened) + 1;
                 for (int asker = 0; asker < guests; asker++) {
@@ -868,26 +865,17 @@ public final class PassTheSalt {
             return k < reached && stepsAs(k) < limit ? at(order, k) : NOWHERE;
         }
 
-        private boolean mustOpenFor(int k, int limit) {
-            return k >= reached ? stepsAs(opened) < limit - 1 : stepsAs(opened) < stepsAs(k);
-        }
-
         private int stepsAs(int k) {
             return at(steps, at(order, k));
         }
 
         /** NOWHERE is left alone. */
         private void reach(int laying, int depth, int opening) {
-            if (laying < 0 || laying >= MOST_LAYINGS) {
-                return;
-            }
-            if (steps[laying] == NOT_REACHED) {
+            if (laying >= 0 && laying < MOST_LAYINGS && steps[laying] == NOT_REACHED) {
                 steps[laying] = depth;
                 openings[laying] = opening;
                 put(order, reached, laying);
                 reached++;
-            } else if (steps[laying] == depth && opening < openings[laying]) {
-                openings[laying] = opening;
             }
         }
 
@@ -896,20 +884,13 @@ public final class PassTheSalt {
             return k < 0 ? NONE : stepsAs(k);
         }
 
+        /**
+         * Askings are tried from the least on and layings in the order in which they are reached, so among
+         * those of as many steps openings never fall: the first one that is met has the least.
+         */
         int openingTo(int seat, int dish) {
             int k = firstWith(seat, dish);
-            if (k <= 0) {
-                return NONE;
-            }
-            int depth = stepsAs(k);
-            int least = FAR;
-            for (; k < reached && stepsAs(k) == depth; k++) {
-                int laying = at(order, k);
-                if (before(moves.layings.lieOf(laying), seat) == dish) {
-                    least = Math.min(least, at(openings, laying));
-                }
-            }
-            return least;
+            return k <= 0 ? NONE : at(openings, at(order, k));
         }
 
         private int firstWith(int seat, int dish) {

@@ -209,6 +209,10 @@ public final class PromisesTest {
         due.is("dish -1", x.worth(0, -1, 0), BAD);
         due.is("no such guest", x.worth(2, 0, 0), BAD);
         due.is("guest -1", x.worth(-1, 0, 0), BAD);
+        int[] without = {9, 8, 7, 6, 5, 4, 3, 2, 1, 0, 0};
+        for (int t = 0; t < without.length; t++) {
+            due.is("9 without c at " + t, Due.laid("g0,0,0;w900;g0,1,0;").worth(0, 0, t), without[t]);
+        }
         due.is("never cold", Due.laid("g0,0,0;w900;g0,1,0;c0;").worth(0, 0, 99), 9);
         due.is("cold at once", Due.laid("g0,0,0;w900;g0,1,0;c9;").worth(0, 0, 1), 0);
     }
@@ -243,6 +247,13 @@ public final class PromisesTest {
         x = Due.laid("d4;g0,0,0;g1,1,0;w9111;g0,2,0;g1,3,0;w9111;");
         due.is("in a row the only way", x.ask(2, 0), 1);
         lies("in a row", x, "2013");
+
+        x = Due.laid("d5;g0,0,0;g1,1,0;w91111;g1,2,0;w91111;g0,3,0;g1,4,0;w91111;r1;");
+        due.is("the shorter way, by the left", x.ask(0, 3), 3);
+        lies("past 4 alone", x, "31240");
+        due.is("as many minutes", x.count(2), 2);
+        due.is("the shorter way, by the right", x.ask(3, 0), 3);
+        lies("past 4 again", x, "41230");
 
         x = Due.laid("d2;g0,0,0;g1,9,0;g0,1,0;");
         due.is("kept where nothing was", x.ask(0, 2), 1);
@@ -367,6 +378,7 @@ public final class PromisesTest {
     private static void p14Price() {
         String four = "d4;g0,0,0;g0,1,0;g0,2,0;g0,3,0;";
         due.is("by hands", Due.laid(four).price(0, 3), 3);
+        due.is("9 without s", Due.laid("d2;g2,0,0;g2,1,0;").price(0, 1), 9);
         due.is("by the servant", Due.laid(four + "s2;").price(0, 3), 2);
         due.is("alike", Due.laid(four + "s3;").price(0, 3), 3);
         due.is("for nothing", Due.laid(four + "s0;").price(0, 3), 0);
@@ -454,6 +466,7 @@ public final class PromisesTest {
         x = Due.laid("d3;g0,0,0;w123;g0,1,0;w113;g0,2,0;w221;");
         due.is("02 and 12", x.liked(0), 2);
         due.is("02", x.liked(1), 2);
+        due.is("not of 0", Due.laid("d3;g0,0,0;g0,1,0;w012;g0,2,0;w021;").liked(1), 12);
         x.ask(0, 2);
         due.is("then none", x.liked(0), 0);
         due.is("then no first", x.liked(1), NONE);
