@@ -33,7 +33,7 @@ public final class PassTheSalt {
 
     private static final int NUMBER_BITS = 10;
     private static final int NOWHERE = (1 << NUMBER_BITS) - 1;
-    private static final int FAR = Integer.MAX_VALUE;
+    private static final int FAR = 1_000_000;
 
     private final int[] text = new int[MOST_BYTES];
     private int length;

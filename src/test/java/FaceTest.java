@@ -94,7 +94,7 @@ public final class FaceTest {
         String[] never = {"\\bpackage\\b", "->", "::", "\\btry\\b", "\\bcatch\\b", "\\bfinally\\b", "\\bsynchronized\\b", "\\bassert\\b",
             "\\bthrow\\b", "\\bSystem\\.(?!arraycopy)", "\\bThread\\b", "\\bRandom\\b", "\\bMath\\.(?!max|min|abs)", "Exact\\b",
             "\\bstatic\\s*\\{", "\\bwhile\\s*\\(true\\)", "for\\s*\\(;;", "\\bimport\\s+(?!java\\.util\\.Arrays;)",
-            "\\bArrays\\.(?!fill|copyOf)", "[^\\x00-\\x7f]"};
+            "\\bArrays\\.(?!fill|copyOf)", "\\b(Integer|Long)\\.(?!bitCount)", "[^\\x00-\\x7f]"};
         for (String sign : never) {
             Matcher m = Pattern.compile(sign).matcher(bare);
             due.is("the text has " + sign, m.find() ? 1 : 0, 0);
