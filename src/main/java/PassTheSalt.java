@@ -851,7 +851,7 @@ public final class PassTheSalt {
         /** The k-th laying that is reached in fewer steps than the limit, or NOWHERE. */
         private int reachedAs(int k, int limit) {
             int guests = moves.table.guests;
-            for (; opened < reached && reached <= k && stepsAs(opened) < limit - 1; opened++) {
+            for (; opened < MOST_LAYINGS && opened < reached && reached <= k && stepsAs(opened) < limit - 1; opened++) {
                 int laying = at(order, opened);
                 int depth = stepsAs(opened) + 1;
                 for (int asker = 0; asker < guests; asker++) {

@@ -2,15 +2,46 @@
 final class Due {
     private int wrong;
     private int compared;
+    private String sentence = "";
+
+    /** Which sentence of the document the answers from here on are for. */
+    void of(String sentence) {
+        this.sentence = "[" + sentence + "] ";
+    }
 
     void is(String call, long got, long want) {
         compared++;
         if (got != want) {
-            wrong++;
-            if (wrong <= 50) {
-                System.out.println(call + " answered " + got + ", due is " + want);
-            }
+            tell(call + " answered " + got + ", due is " + want);
         }
+    }
+
+    void same(String what, String got, String want) {
+        compared++;
+        if (!got.equals(want)) {
+            tell(what + " is " + got + ", due is " + want);
+        }
+    }
+
+    private void tell(String fault) {
+        wrong++;
+        if (wrong <= 50) {
+            System.out.println(sentence + fault);
+        }
+    }
+
+    /** How dishes lie, a sign a guest: - for none. */
+    void lies(String where, PassTheSalt x, String want) {
+        same(where + ", how dishes lie", lieOf(x), want);
+    }
+
+    static String lieOf(PassTheSalt x) {
+        StringBuilder lie = new StringBuilder();
+        for (int i = 0; i < x.count(0); i++) {
+            int dish = x.guest(i, 1);
+            lie.append(dish == PassTheSalt.NONE ? "-" : "" + dish);
+        }
+        return lie.toString();
     }
 
     void end() {

@@ -35,17 +35,9 @@ public final class PromisesTest {
         due.end();
     }
 
-    /** How dishes lie, a sign a guest: - for none. */
-    private static void lies(String where, PassTheSalt x, String want) {
-        for (int i = 0; i < want.length(); i++) {
-            due.is(where + " guest(" + i + ", 1)", x.guest(i, 1), want.charAt(i) == '-' ? NONE : want.charAt(i) - '0');
-        }
-        due.is(where + " guests", x.count(0), want.length());
-    }
-
     private static void p1New() {
         PassTheSalt x = new PassTheSalt();
-        lies("new", x, "012");
+        due.lies("new", x, "012");
         int[] wants = {2, 4, 1};
         for (int i = 0; i < 3; i++) {
             due.is("new kind", x.guest(i, 0), 0);
@@ -61,7 +53,7 @@ public final class PromisesTest {
         }
         due.is("new fault", x.fault(), NONE);
         due.is("new lay", x.lay(), NO);
-        lies("new, lay was NO", x, "012");
+        due.lies("new, lay was NO", x, "012");
         due.is("new undo", x.undo(), NO);
         due.is("new back", x.back(), NO);
     }
@@ -99,7 +91,7 @@ public final class PromisesTest {
         Due.write(x, "g0,0,0;g0,1,0;");
         x.lay();
         due.is("wipe behind lay", x.wipe(), 14);
-        lies("the table stays", x, "01");
+        due.lies("the table stays", x, "01");
     }
 
     private static void p4Fault() {
@@ -132,7 +124,7 @@ public final class PromisesTest {
         x.fault();
         Due.write(x, "w12;");
         due.is("asked for again and again", x.fault(), NONE);
-        lies("fault lays nothing", x, "012");
+        due.lies("fault lays nothing", x, "012");
     }
 
     private static void p5Lay() {
@@ -140,7 +132,7 @@ public final class PromisesTest {
         due.is("one guest", x.lay(), NO);
         Due.write(x, "g0,0,0;");
         due.is("a fault", x.lay(), NO);
-        lies("NO changes nothing", x, "012");
+        due.lies("NO changes nothing", x, "012");
         x.ask(0, 2);
         x.keep();
         due.is("NO leaves minutes", x.lay(), NO);
@@ -150,7 +142,7 @@ public final class PromisesTest {
         x.wipe();
         Due.write(x, "d4;g1,3,9;g2,9,0;");
         due.is("lay", x.lay(), 2);
-        lies("laid", x, "3-");
+        due.lies("laid", x, "3-");
         int[] counts = {2, 4, 0, 0, 0, 17, 0};
         for (int what = 0; what < counts.length; what++) {
             due.is("laid count(" + what + ")", x.count(what), counts[what]);
@@ -187,7 +179,7 @@ public final class PromisesTest {
         due.is("HOLD is not asked, had", x.guest(0, 3), 32);
         x.ask(2, 0);
         due.is("had of 0, to whom nothing came", x.guest(0, 3), 32);
-        lies("taken between", x, "-051");
+        due.lies("taken between", x, "-051");
         due.is("had of 1, who sits between with nothing and takes it", x.guest(1, 3), 1);
         due.is("had of 2", x.guest(2, 3), 33);
     }
@@ -238,38 +230,38 @@ public final class PromisesTest {
         String ring = "d4;g0,0,0;g1,1,0;w9111;g0,2,0;g1,3,0;w9111;r1;";
         PassTheSalt x = Due.laid(ring);
         due.is("alike ways: by the right", x.ask(0, 2), 2);
-        lies("one put in", x, "2013");
+        due.lies("one put in", x, "2013");
         due.is("minutes", x.count(2), 2);
         x = Due.laid(ring);
         due.is("back: by the right too", x.ask(2, 0), 3);
-        lies("one put in on the way back", x, "2130");
+        due.lies("one put in on the way back", x, "2130");
         due.is("had by him between", x.guest(3, 3), 9);
         x = Due.laid("d4;g0,0,0;g1,1,0;w9111;g0,2,0;g1,3,0;w9111;");
         due.is("in a row the only way", x.ask(2, 0), 1);
-        lies("in a row", x, "2013");
+        due.lies("in a row", x, "2013");
 
         x = Due.laid("d5;g0,0,0;g1,1,0;w91111;g1,2,0;w91111;g0,3,0;g1,4,0;w91111;r1;");
         due.is("the shorter way, by the left", x.ask(0, 3), 3);
-        lies("past 4 alone", x, "31240");
+        due.lies("past 4 alone", x, "31240");
         due.is("as many minutes", x.count(2), 2);
         due.is("the shorter way, by the right", x.ask(3, 0), 3);
-        lies("past 4 again", x, "41230");
+        due.lies("past 4 again", x, "41230");
 
         x = Due.laid("d2;g0,0,0;g1,9,0;g0,1,0;");
         due.is("kept where nothing was", x.ask(0, 2), 1);
-        lies("nothing goes on", x, "10-");
+        due.lies("nothing goes on", x, "10-");
         due.is("nothing before the one asked", x.ask(0, 2), NO);
         due.is("nothing before the one who asks", x.ask(2, 0), NO);
         due.is("minutes stay", x.count(2), 2);
         x = Due.laid("d2;g0,0,0;g1,9,0;w00;g0,1,0;");
         due.is("worth 0 is not more than nothing", x.ask(0, 2), 1);
-        lies("all goes past", x, "1-0");
+        due.lies("all goes past", x, "1-0");
         x = Due.laid("d2;g0,0,0;g1,9,0;w05;g0,1,0;");
         due.is("nothing comes back", x.ask(0, 2), NONE);
-        lies("kept on the way back", x, "-10");
+        due.lies("kept on the way back", x, "-10");
         x = Due.laid("d3;g1,0,0;w091;g0,1,0;g1,2,0;w190;c9;");
         due.is("the two ends put nothing in", x.ask(0, 2), 2);
-        lies("the two ends", x, "210");
+        due.lies("the two ends", x, "210");
         due.is("cold by now, but worth as not cold", x.ask(1, 2), 0);
 
         x = Due.laid("d2;g2,0,0;g0,1,0;");
@@ -286,20 +278,20 @@ public final class PromisesTest {
         String three = "d3;g3,0,0;g0,1,0;g3,2,0;";
         PassTheSalt x = Due.laid(three);
         due.is("a CHILD changes back", x.ask(0, 1), 0);
-        lies("as before", x, "012");
+        due.lies("as before", x, "012");
         due.is("though it was asked", x.count(3), 1);
         due.is("had only what is there then", x.guest(0, 3), 1);
         due.is("the last of a row does not", x.ask(0, 2), 1);
-        lies("a row", x, "120");
+        due.lies("a row", x, "120");
         x = Due.laid(three + "r1;");
         due.is("in a ring he does", x.ask(0, 2), 0);
-        lies("a ring", x, "021");
+        due.lies("a ring", x, "021");
         x = Due.laid("d2;g3,0,0;g1,9,0;w05;g0,1,0;");
         due.is("a CHILD with nothing", x.ask(0, 2), NONE);
-        lies("changes nothing", x, "-10");
+        due.lies("changes nothing", x, "-10");
         x = Due.laid("d2;g0,0,0;g3,1,0;g0,9,0;");
         due.is("who is asked changes too", x.ask(0, 1), 1);
-        lies("with nothing, too", x, "1-0");
+        due.lies("with nothing, too", x, "1-0");
     }
 
     private static void p10Undo() {
@@ -320,7 +312,7 @@ public final class PromisesTest {
         x = new PassTheSalt();
         x.ask(0, 2);
         x.undo();
-        lies("undone", x, "012");
+        due.lies("undone", x, "012");
         due.is("had goes back", x.guest(0, 3), 1);
         x.ask(0, 0);
         due.is("NO is no asking", x.undo(), NO);
@@ -421,7 +413,7 @@ public final class PromisesTest {
         due.is("at first", x.stuck(), 0);
         // 2 asks 0: the OWN one keeps what goes on, so nothing comes to 0.
         x.ask(2, 0);
-        lies("then", x, "-10");
+        due.lies("then", x, "-10");
         due.is("2 may still ask 1", x.stuck(), 0);
     }
 
@@ -536,7 +528,7 @@ public final class PromisesTest {
         // k is 1: x is 6152, x times x 37847104, DRAW 41487: 5185 modulo 3 is 1, 41487 modulo 3 is 0: 0 asks 1.
         due.is("two", x.drawn(0, 2, -1), 2);
         due.is("back again", x.drawn(0, 2, 0), 0);
-        lies("nothing changes", x, "012");
+        due.lies("nothing changes", x, "012");
         due.is("no minutes", x.count(2), 0);
         int[][] bad = {{-1, 1, 0}, {10000, 1, 0}, {0, 0, 0}, {0, 61, 0}, {0, 1, 3}, {0, 1, -2}, {0, -1, -1}};
         for (int[] b : bad) {
@@ -572,16 +564,16 @@ public final class PromisesTest {
         x.ask(1, 2);
         due.is("had", x.guest(2, 3), 7);
         due.is("back", x.back(), 1);
-        lies("as kept last", x, "201");
+        due.lies("as kept last", x, "201");
         due.is("minutes as kept", x.count(2), 3);
         due.is("had as kept", x.guest(2, 3), 6);
         due.is("nothing is undone", x.undo(), NO);
         due.is("back again", x.back(), 0);
-        lies("as kept first", x, "102");
+        due.lies("as kept first", x, "102");
         due.is("minutes as kept first", x.count(2), 1);
         due.is("had as kept first", x.guest(0, 3), 3);
         due.is("no more", x.back(), NO);
-        lies("NO changes nothing", x, "102");
+        due.lies("NO changes nothing", x, "102");
         x.ask(0, 1);
         due.is("NO leaves what can be undone", x.back(), NO);
         due.is("undoable", x.count(3), 1);
