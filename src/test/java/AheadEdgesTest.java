@@ -22,6 +22,7 @@ public final class AheadEdgesTest {
         priceNone();
         priceOfHands();
         never();
+        neverFromNowOn();
         neverBad();
         stuck();
         stuckThoughAsked();
@@ -214,6 +215,10 @@ public final class AheadEdgesTest {
         due.is("in a row", Due.laid(SIX + "s99;").price(5, 0), 5);
         due.is("in a ring", Due.laid(SIX + "r1;s99;").price(5, 0), 1);
         due.is("through half of it", Due.laid(SIX + "r1;s99;").price(0, 3), 3);
+        PassTheSalt six = Due.laid(SIX + "s99;");
+        six.ask(0, 5);
+        due.is("back from end to end", six.price(0, 0), 5);
+        due.is("back from the other end", six.price(5, 5), 5);
         due.of("PRICE: .. for each asking, two of them");
         PassTheSalt x = Due.laid("d3;g2,0,0;g0,1,0;g2,2,0;s99;");
         due.is("2 asks 1, 0 asks 1", x.price(0, 2), 2);
@@ -235,6 +240,20 @@ public final class AheadEdgesTest {
         PassTheSalt turned = Due.laid("d2;g2,1,0;g2,0,0;");
         due.is("the first dish, the first guest", turned.never(0), 1);
         due.is("the second dish, the second guest", turned.never(1), 2);
+    }
+
+    private static void neverFromNowOn() {
+        due.of("NEVER: as dishes lie now");
+        // What he had at first he can never have again.
+        PassTheSalt x = Due.laid("d2;g2,0,0;g3,1,0;g2,9,0;");
+        due.is("at first", x.never(0), 0);
+        x.ask(0, 1);
+        due.lies("asked", x, "1-0");
+        due.is("of him who asked", x.never(0), 1);
+        due.is("of him who was asked", x.never(1), 3);
+        due.is("his NEED is none", x.need(0, 0), NONE);
+        x.undo();
+        due.is("undone", x.never(0), 0);
     }
 
     private static void neverBad() {
@@ -304,6 +323,7 @@ public final class AheadEdgesTest {
         due.is("it is nowhere", Due.laid("g0,0,4;g0,1,0;").rest(), NONE);
         due.is("nothing before one who wants", Due.laid("g0,0,0;g0,9,7;g0,1,0;").rest(), NONE);
         due.is("HOLDs", Due.laid("g2,0,2;g2,1,1;").rest(), NONE);
+        due.is("though all 720 ways to lie come to be", Due.laid("d6;g0,0,1;g0,1,1;g0,2,0;g0,3,0;g0,4,0;g0,5,0;").rest(), NONE);
     }
 
     private static void restFewest() {
@@ -316,6 +336,11 @@ public final class AheadEdgesTest {
         due.is("one of two done", x.rest(), 1);
         x.undo();
         due.is("undone", x.rest(), 2);
+        x = Due.laid("d6;g0,0,1;g0,1,2;g0,2,4;g0,3,8;g0,4,16;g0,5,32;");
+        x.ask(0, 1);
+        x.ask(2, 3);
+        x.ask(4, 5);
+        due.is("back to how they were LAID", x.rest(), 3);
     }
 
     private static void holdsUpNone() {

@@ -10,6 +10,7 @@ public final class AskingEdgesTest {
         handsBad();
         waysInRow();
         waysInRing();
+        waysWhereMoreSat();
         sameWayBack();
         unlike();
         dishBeforeEach();
@@ -159,6 +160,32 @@ public final class AskingEdgesTest {
                 }
             }
         }
+    }
+
+    private static void waysWhereMoreSat() {
+        due.of("WAY .. in a RING 0 behind the last, of those there are now");
+        for (int n = 2; n <= 5; n++) {
+            for (int i = 0; i < n; i++) {
+                for (int j = 0; j < n; j++) {
+                    if (i != j) {
+                        PassTheSalt x = Due.laid("d2;" + "g1,9,0;w99;".repeat(6) + "r1;");
+                        x.wipe();
+                        Due.write(x, keepersBetween(n, i, j, 1).replace("g1", "g0"));
+                        x.lay();
+                        x.ask(i, j);
+                        due.lies(i + " asks " + j + " of " + n, x, changed(n, i, j));
+                    }
+                }
+            }
+        }
+    }
+
+    /** Where none sits between who keeps a thing. */
+    private static String changed(int guests, int i, int j) {
+        char[] lie = "-".repeat(guests).toCharArray();
+        lie[i] = '1';
+        lie[j] = '0';
+        return new String(lie);
     }
 
     private static void sameWayBack() {

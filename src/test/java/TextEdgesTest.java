@@ -254,7 +254,8 @@ public final class TextEdgesTest {
             faultAt(sign == ',' ? NONE : 0, "g0" + (char) sign + "0,0;");
             faultAt(sign == ',' ? NONE : 0, "g0,0" + (char) sign + "0;");
         }
-        String[] wrong = {"g0;", "g0,0;", "g0,0,0,0;", "g0,0,0,;", "g,0,0,0;", "g0,,0,0;", "s1,;", "s,1;", "s1,1;", "d1,1;", "r1,0;", "c1,2;"};
+        String[] wrong = {"g0;", "g0,0;", "g0,0,0,0;", "g0,0,0,;", "g,0,0,0;", "g0,,0,0;", "s1,;", "s,1;", "s1,1;", "d1,1;", "r1,0;",
+            "c1,2;"};
         for (String text : wrong) {
             faultAt(0, text);
         }
