@@ -27,6 +27,7 @@ public final class AheadEdgesTest {
         stuck();
         stuckThoughAsked();
         stuckFromNowOn();
+        stuckOfSix();
         restAtOnce();
         restWithoutWants();
         restOfOneOfThese();
@@ -296,6 +297,29 @@ public final class AheadEdgesTest {
         due.is("then", x.stuck(), 1);
         x.undo();
         due.is("undone", x.stuck(), 0);
+    }
+
+    private static void stuckOfSix() {
+        due.of("STUCK: by no asking, of six GUESTS, too, and whatever was looked at before");
+        PassTheSalt x = Due.laid("d4;g2,1,0;g2,2,0;g1,9,0;g3,0,0;g2,9,0;g2,3,0;");
+        // 0 asks 3: the OWN one keeps dish 1, and by him, whom HOLDs may ask, all dishes come to 0.
+        due.is("all that comes to be is looked at", x.never(0), 0);
+        // 3, a CHILD, changes what came to him with 4, a HOLD: dishes are before HOLDs alone then.
+        due.is("5 asks 3", x.ask(5, 3), 0);
+        due.lies("then", x, "12--30");
+        due.is("then", x.stuck(), 1);
+        x = Due.laid("d2;g1,9,0;g2,9,0;g2,9,0;g2,9,0;g3,1,0;g3,0,0;r1;");
+        // 4 and 5, both CHILDREN: 4 changes all back with 5, and 5 what is before him then with 0.
+        due.is("4 asks 5", x.ask(4, 5), 1);
+        due.lies("4 has asked 5", x, "0---1-");
+        // 4 changes what came to him with 5; and 5, a CHILD, changes back whatever 0 and he ask for.
+        due.is("4 asks 0", x.ask(4, 0), NONE);
+        due.lies("4 has asked 0", x, "1----0");
+        due.is("stuck by 5", x.stuck(), 1);
+        x.undo();
+        due.is("undone", x.stuck(), 0);
+        due.is("need", x.need(0, 1), 1);
+        due.is("first", x.first(0, 1), 4);
     }
 
     private static void restAtOnce() {

@@ -86,7 +86,7 @@ public final class PlainTableTest {
         int i = random.nextInt(7) - (random.nextInt(20) == 0 ? 1 : 0);
         int j = random.nextInt(7) - (random.nextInt(20) == 0 ? 1 : 0);
         int z = random.nextInt(10002) - 1;
-        switch (random.nextInt(14)) {
+        switch (random.nextInt(15)) {
             case 0:
                 due.is(at + "undo", x.undo(), y.undo());
                 break;
@@ -107,6 +107,9 @@ public final class PlainTableTest {
                 break;
             case 6:
                 due.is(at + "drawn", x.drawn(z, 10 * i, j - 1), y.drawn(z, 10 * i, j - 1));
+                break;
+            case 7:
+                due.is(at + "stuck", x.stuck(), y.stuck());
                 break;
             default:
                 due.is(at + "ask " + i + " " + j, x.ask(i, j), y.ask(i, j));
